@@ -307,7 +307,10 @@ public final class PromiseTest {
         house.put(4, 6, -MOST);
         due("one more", house.between(0, 0, 1), 16 * 5 + 4);
         due("edges are inside", house.between(4, 0, 1), 16 * 10);
-        due("full row", with(1, RISING).between(1, 2, 3), 0);
+        due("full row without levels", with(1, RISING).between(1, 2, 3), 0);
+        fill(house, 1, RISING);
+        fill(house, 2, RISING);
+        due("full row, its neighbour full too", house.between(1, 0, 1), 16 * 2 + 10);
         for (int row : OUTSIDE_ROWS) {
             refuses("between row " + row, INDEX, h -> h.between(row, 0, 0));
         }
@@ -471,6 +474,8 @@ public final class PromiseTest {
             due("all missing, sign " + sign, house.pick(7, sign), sign == 5 ? 11 : 0);
         }
         due("unlike, back and forth", with(1, 5, 5, 6, 6, 5, 5, 5, 5, 5, 5, 5, 5).pick(1, 5), 4);
+        due("place 1 is the least", with(2, 1, 0, 2, 3, 4, 5, 6, 7, 8, 9, 10, 11).pick(2, 0), 1);
+        due("place 1 is the last to be above", with(2, 1, 2).pick(2, 2), 1);
         due("readings stay", told(house, 4), text(MIXED));
         refusesRowSign("pick", (h, row, sign) -> h.pick(row, sign));
     }
