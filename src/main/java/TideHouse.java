@@ -19,7 +19,7 @@ public final class TideHouse {
     private static final int SAME = 4;
     private static final int UNLIKE = 5;
 
-    // Flat arrays, made once: an object then costs five objects in all, and no call makes another.
+    // Flat arrays, made once: an object then costs five objects in all, and a call makes none but what it throws.
     private final int[] readings;
     private final int[] levels;
     private final boolean[] open;
